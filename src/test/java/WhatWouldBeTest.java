@@ -8,6 +8,9 @@ public final class WhatWouldBeTest {
         arrivesRefuses();
         foreseeAnswers();
         foreseeFouls();
+        foreseeFromALaterTick();
+        foreseeThoseThatAreIn();
+        fullRiver();
         foreseeRefuses();
         adviseByTheTick();
         adviseTheFarthest();
@@ -138,6 +141,57 @@ public final class WhatWouldBeTest {
         CHECK.due("fouls now", race.count(4), 4);
     }
 
+    /** In the tick 33 the second stroke of two counts; were it the tick 0, the first one would. */
+    private static void foreseeFromALaterTick() {
+        CoracleRace race = stillWater(2, 8);
+        race.paddle(0, 1, 0);
+        race.setWater(2, 6);
+        race.go(33);
+        race.setWater(2, 0);
+        CHECK.due("at", race.boat(0, 0), 198);
+        race.paddle(0, 2, 3);
+        CHECK.due("in by the stroke of the tick 33", race.foresee(1, 3), 1);
+        race.paddle(0, 2, 30);
+        CHECK.due("no stroke in the tick 33", race.foresee(1, 3), 0);
+        CHECK.due("a stroke in the tick 34", race.foresee(2, 3), 1);
+    }
+
+    /** Their times are kept: by fouls alone, or by ticks alone, the other boat would win. */
+    private static void foreseeThoseThatAreIn() {
+        CoracleRace few = new CoracleRace();
+        few.launch(2, 4);
+        few.launch(2, 8);
+        few.tar(1);
+        few.go(60);
+        CHECK.due("both are in", few.count(3), 2);
+        CHECK.due("the winner by an early tick stays", few.foresee(200, 6), 1);
+        CoracleRace many = new CoracleRace();
+        many.launch(2, 8);
+        many.launch(2, 4);
+        for (int i = 0; i < 10; i++) {
+            many.tar(0);
+        }
+        many.go(60);
+        CHECK.due("both are in", many.count(3), 2);
+        CHECK.due("the winner by few fouls stays", many.foresee(200, 6), 1);
+    }
+
+    private static void fullRiver() {
+        CoracleRace race = new CoracleRace();
+        for (int i = 0; i < 6; i++) {
+            race.launch(i % 5, 3 + i);
+            race.weir(190 - 30 * i, i % 5);
+        }
+        CHECK.due("the first of six weirs", race.next(0), 40);
+        CHECK.due("the last of six weirs", race.next(189), 190);
+        race.go(1);
+        CHECK.dueDouble("mean() of 4, 6, 8, 8, 8 and 9", race.mean(), 43 / 6.0);
+        CHECK.due("leads behind 2", race.foresee(2, 5), 5);
+        CHECK.due("in behind 200", race.foresee(200, 3), 6);
+        race.go(200);
+        CHECK.due("in", race.count(3), 6);
+    }
+
     private static void foreseeRefuses() {
         CoracleRace race = threeBoats();
         CHECK.illegalArgument(race, "foresee(0, 3)", () -> race.foresee(0, 3));
@@ -261,6 +315,10 @@ public final class WhatWouldBeTest {
         CHECK.dueDouble("mean() without boats", race.mean(), 0);
         race.launch(0, 4);
         CHECK.dueDouble("mean() at 0", race.mean(), 0);
+        CoracleRace single = new CoracleRace();
+        single.launch(0, 4);
+        single.go(1);
+        CHECK.dueDouble("mean() of one", single.mean(), 5);
         race.launch(0, 3);
         race.go(1);
         CHECK.dueDouble("mean() of 5 and 4", race.mean(), 4.5);
