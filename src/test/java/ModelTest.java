@@ -117,14 +117,6 @@ public final class ModelTest {
     }
 
     private static void same(int run, int call, String what, Callable<?> got, Callable<?> want) {
-        CHECK.dueText("run " + run + ", call " + call + ": " + what, answer(got), answer(want));
-    }
-
-    private static String answer(Callable<?> call) {
-        try {
-            return String.valueOf(call.call());
-        } catch (Exception e) {
-            return "throws." + e.getClass().getName();
-        }
+        CHECK.dueText("run " + run + ", call " + call + ": " + what, Check.answer(got), Check.answer(want));
     }
 }

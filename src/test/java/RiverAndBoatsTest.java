@@ -7,18 +7,13 @@ public final class RiverAndBoatsTest {
         objectsAreApart();
         setWaterAnswers();
         setWaterCarries();
-        setWaterRefuses();
         weirAnswers();
-        weirRefuses();
         launchAnswers();
-        launchRefuses();
         launchLate();
         paddleAnswers();
         paddleOrder();
         paddleWithLeadingRests();
-        paddleRefuses();
         tarAnswers();
-        tarRefuses();
         CHECK.end();
     }
 
@@ -68,46 +63,12 @@ public final class RiverAndBoatsTest {
         CHECK.due("carried by 0", race.boat(0, 0), 8);
     }
 
-    private static void setWaterRefuses() {
-        CoracleRace race = new CoracleRace();
-        CHECK.outOfBounds(race, "setWater(-1, 0)", () -> race.setWater(-1, 0));
-        CHECK.outOfBounds(race, "setWater(5, 0)", () -> race.setWater(5, 0));
-        CHECK.illegalArgument(race, "setWater(0, -1)", () -> race.setWater(0, -1));
-        CHECK.illegalArgument(race, "setWater(4, 7)", () -> race.setWater(4, 7));
-        CHECK.outOfBounds(race, "setWater(5, 7)", () -> race.setWater(5, 7));
-        CHECK.outOfBounds(race, "setWater(MIN, MIN)",
-            () -> race.setWater(Integer.MIN_VALUE, Integer.MIN_VALUE));
-        CHECK.outOfBounds(race, "setWater(MAX, 0)", () -> race.setWater(Integer.MAX_VALUE, 0));
-        CHECK.illegalArgument(race, "setWater(0, MAX)", () -> race.setWater(0, Integer.MAX_VALUE));
-    }
-
     private static void weirAnswers() {
         CoracleRace race = new CoracleRace();
         CHECK.due("weir(199, 0)", race.weir(199, 0), 1);
         CHECK.due("weir(1, 4)", race.weir(1, 4), 2);
         CHECK.due("weir(2, 4)", race.weir(2, 4), 3);
         CHECK.due("weirs", race.count(2), 3);
-    }
-
-    private static void weirRefuses() {
-        CoracleRace race = new CoracleRace();
-        CHECK.illegalArgument(race, "weir(0, 0)", () -> race.weir(0, 0));
-        CHECK.illegalArgument(race, "weir(200, 0)", () -> race.weir(200, 0));
-        CHECK.illegalArgument(race, "weir(-1, 0)", () -> race.weir(-1, 0));
-        CHECK.illegalArgument(race, "weir(1, -1)", () -> race.weir(1, -1));
-        CHECK.illegalArgument(race, "weir(1, 5)", () -> race.weir(1, 5));
-        CHECK.illegalArgument(race, "weir(MIN, MAX)", () -> race.weir(Integer.MIN_VALUE, Integer.MAX_VALUE));
-        race.weir(10, 0);
-        race.weir(20, 1);
-        CHECK.illegalState(race, "a second weir(10, 1)", () -> race.weir(10, 1));
-        CHECK.illegalState(race, "a second weir(20, 1)", () -> race.weir(20, 1));
-        CHECK.illegalArgument(race, "a second weir(10, 5)", () -> race.weir(10, 5));
-        for (int i = 3; i <= 6; i++) {
-            CHECK.due("weir " + i, race.weir(10 * i, 0), i);
-        }
-        CHECK.illegalState(race, "a seventh weir", () -> race.weir(70, 0));
-        CHECK.illegalArgument(race, "a seventh weir(200, 0)", () -> race.weir(200, 0));
-        CHECK.illegalArgument(race, "a seventh weir(70, 5)", () -> race.weir(70, 5));
     }
 
     private static void launchAnswers() {
@@ -120,23 +81,6 @@ public final class RiverAndBoatsTest {
         CHECK.due("both with strength 1", race.boat(0, 0), 2);
         CHECK.due("both with strength 8", race.boat(1, 0), 9);
         CHECK.due("boats", race.count(1), 2);
-    }
-
-    private static void launchRefuses() {
-        CoracleRace race = new CoracleRace();
-        CHECK.illegalArgument(race, "launch(-1, 1)", () -> race.launch(-1, 1));
-        CHECK.illegalArgument(race, "launch(5, 1)", () -> race.launch(5, 1));
-        CHECK.illegalArgument(race, "launch(0, 0)", () -> race.launch(0, 0));
-        CHECK.illegalArgument(race, "launch(0, 9)", () -> race.launch(0, 9));
-        CHECK.illegalArgument(race, "launch(MAX, MIN)",
-            () -> race.launch(Integer.MAX_VALUE, Integer.MIN_VALUE));
-        for (int i = 0; i < 6; i++) {
-            CHECK.due("launch " + i, race.launch(i % 5, i + 1), i);
-        }
-        CHECK.illegalState(race, "a seventh launch", () -> race.launch(0, 1));
-        CHECK.illegalArgument(race, "a seventh launch(5, 1)", () -> race.launch(5, 1));
-        CHECK.illegalArgument(race, "a seventh launch(0, 9)", () -> race.launch(0, 9));
-        CHECK.due("boats", race.count(1), 6);
     }
 
     private static void launchLate() {
@@ -195,32 +139,6 @@ public final class RiverAndBoatsTest {
         CHECK.due("both in the tick 6, rest in 7", race.boat(0, 0), 16);
     }
 
-    private static void paddleRefuses() {
-        CoracleRace race = new CoracleRace();
-        CHECK.outOfBounds(race, "paddle(0, 1, 3) without boats", () -> race.paddle(0, 1, 3));
-        race.launch(2, 4);
-        CHECK.outOfBounds(race, "paddle(1, 1, 3)", () -> race.paddle(1, 1, 3));
-        CHECK.outOfBounds(race, "paddle(-1, 1, 3)", () -> race.paddle(-1, 1, 3));
-        CHECK.outOfBounds(race, "paddle(6, 0, 3)", () -> race.paddle(6, 0, 3));
-        CHECK.outOfBounds(race, "paddle(MIN, 0, 4)", () -> race.paddle(Integer.MIN_VALUE, 0, 4));
-        CHECK.illegalArgument(race, "paddle(0, 0, 0)", () -> race.paddle(0, 0, 0));
-        CHECK.illegalArgument(race, "paddle(0, 7, 333333)", () -> race.paddle(0, 7, 333333));
-        CHECK.illegalArgument(race, "paddle(0, -1, 3)", () -> race.paddle(0, -1, 3));
-        CHECK.illegalArgument(race, "paddle(0, MAX, 3)", () -> race.paddle(0, Integer.MAX_VALUE, 3));
-        CHECK.illegalArgument(race, "paddle(0, 1, 4)", () -> race.paddle(0, 1, 4));
-        CHECK.illegalArgument(race, "paddle(0, 1, 10)", () -> race.paddle(0, 1, 10));
-        CHECK.illegalArgument(race, "paddle(0, 3, 400)", () -> race.paddle(0, 3, 400));
-        CHECK.illegalArgument(race, "paddle(0, 3, 151)", () -> race.paddle(0, 3, 151));
-        CHECK.illegalArgument(race, "paddle(0, 3, 119)", () -> race.paddle(0, 3, 119));
-        CHECK.illegalArgument(race, "paddle(0, 6, 1111111)", () -> race.paddle(0, 6, 1111111));
-        CHECK.illegalArgument(race, "paddle(0, 6, 1000000)", () -> race.paddle(0, 6, 1000000));
-        CHECK.illegalArgument(race, "paddle(0, 6, -1)", () -> race.paddle(0, 6, -1));
-        CHECK.illegalArgument(race, "paddle(0, 6, -10)", () -> race.paddle(0, 6, -10));
-        CHECK.illegalArgument(race, "paddle(0, 6, MIN)", () -> race.paddle(0, 6, Integer.MIN_VALUE));
-        CHECK.illegalArgument(race, "paddle(0, 6, MAX)", () -> race.paddle(0, 6, Integer.MAX_VALUE));
-        CHECK.due("still one stroke", race.paddle(0, 6, 0), 1);
-    }
-
     private static void tarAnswers() {
         CoracleRace race = new CoracleRace();
         race.launch(0, 1);
@@ -234,17 +152,5 @@ public final class RiverAndBoatsTest {
         CHECK.due("tar(0) again", race.tar(0), 0);
         CHECK.due("fouls, tarred twice", race.boat(0, 4), 8);
         CHECK.due("tar takes no tick", race.count(0), 9);
-    }
-
-    private static void tarRefuses() {
-        CoracleRace race = new CoracleRace();
-        CHECK.outOfBounds(race, "tar(0) without boats", () -> race.tar(0));
-        race.launch(2, 8);
-        CHECK.outOfBounds(race, "tar(1)", () -> race.tar(1));
-        CHECK.outOfBounds(race, "tar(-1)", () -> race.tar(-1));
-        race.go(40);
-        CHECK.illegalState(race, "tar(0) when in", () -> race.tar(0));
-        CHECK.outOfBounds(race, "tar(1) when 0 is in", () -> race.tar(1));
-        CHECK.due("a boat that is in can be told a pattern", race.paddle(0, 2, 12), 1);
     }
 }

@@ -23,30 +23,14 @@ public final class TickTest {
         stopsJustAhead();
         inIsIn();
         goAnswers();
-        goRefuses();
         CHECK.end();
-    }
-
-    private static CoracleRace withBoat(int lane, int strength, int length, int strokes) {
-        CoracleRace race = new CoracleRace();
-        race.launch(lane, strength);
-        race.paddle(0, length, strokes);
-        return race;
-    }
-
-    private static CoracleRace stillWater(int lane, int strength, int length, int strokes) {
-        CoracleRace race = withBoat(lane, strength, length, strokes);
-        for (int i = 0; i < 5; i++) {
-            race.setWater(i, 0);
-        }
-        return race;
     }
 
     private static void strokes() {
         int[] place = {3, 6, 6, 11};
         int[] heading = {0, 1, -1, 0};
         for (int stroke = 0; stroke <= 3; stroke++) {
-            CoracleRace race = withBoat(2, 8, 1, stroke);
+            CoracleRace race = Races.withBoat(2, 8, 1, stroke);
             CHECK.due("a tick of stroke " + stroke, race.go(1), 0);
             CHECK.dueBoat("stroke " + stroke, race, 0, place[stroke], 2, heading[stroke], 1, 0, 0, -1, 0, 0);
         }
@@ -54,7 +38,7 @@ public final class TickTest {
 
     /** A half of 7 is 3; heading by 1, 3 * 3 / 4 is 2; heading by 2, 3 * 2 / 4 is 1. */
     private static void forceIsCut() {
-        CoracleRace race = stillWater(2, 7, 1, 1);
+        CoracleRace race = Races.stillWithBoat(2, 7, 1, 1);
         race.go(1);
         CHECK.due("half, heading by 1", race.boat(0, 0), 2);
         race.go(1);
@@ -64,13 +48,13 @@ public final class TickTest {
         race.paddle(0, 1, 3);
         race.go(1);
         CHECK.due("both, heading by 3", race.boat(0, 0), 4);
-        CoracleRace weak = stillWater(2, 1, 1, 2);
+        CoracleRace weak = Races.stillWithBoat(2, 1, 1, 2);
         weak.go(1);
         CHECK.due("a half of 1", weak.boat(0, 0), 0);
     }
 
     private static void leftSpins() {
-        CoracleRace race = withBoat(0, 8, 1, 1);
+        CoracleRace race = Races.withBoat(0, 8, 1, 1);
         race.go(1);
         CHECK.dueBoat("left 1", race, 0, 4, 0, 1, 1, 0, 0, -1, 0, 0);
         race.go(1);
@@ -86,7 +70,7 @@ public final class TickTest {
     }
 
     private static void rightSpins() {
-        CoracleRace race = withBoat(4, 8, 1, 2);
+        CoracleRace race = Races.withBoat(4, 8, 1, 2);
         race.go(1);
         CHECK.dueBoat("right 1", race, 0, 4, 4, -1, 1, 0, 0, -1, 0, 0);
         race.go(1);
@@ -100,16 +84,16 @@ public final class TickTest {
     }
 
     private static void driftGoesOnWithoutTurning() {
-        CoracleRace race = withBoat(0, 8, 6, 110000);
+        CoracleRace race = Races.withBoat(0, 8, 6, 110000);
         race.go(4);
         CHECK.dueBoat("drifting at rest", race, 0, 4 + 4 + 3 + 2, 3, 2, 1, 0, 0, -1, 0, 0);
-        CoracleRace both = stillWater(4, 8, 6, 223333);
+        CoracleRace both = Races.stillWithBoat(4, 8, 6, 223333);
         both.go(4);
         CHECK.dueBoat("drifting with both", both, 0, 3 + 2 + 4 + 4, 1, -2, 1, 0, 0, -1, 0, 0);
     }
 
     private static void greaterBankFouls() {
-        CoracleRace race = withBoat(4, 8, 1, 1);
+        CoracleRace race = Races.withBoat(4, 8, 1, 1);
         race.go(1);
         CHECK.due("no drift by 1", race.boat(0, 4), 0);
         race.go(1);
@@ -121,7 +105,7 @@ public final class TickTest {
     }
 
     private static void lesserBankFouls() {
-        CoracleRace race = withBoat(0, 8, 1, 2);
+        CoracleRace race = Races.withBoat(0, 8, 1, 2);
         race.go(1);
         CHECK.due("no drift by -1", race.boat(0, 4), 0);
         race.go(1);
@@ -132,7 +116,7 @@ public final class TickTest {
     }
 
     private static void weirStops() {
-        CoracleRace race = withBoat(2, 8, 1, 3);
+        CoracleRace race = Races.withBoat(2, 8, 1, 3);
         race.weir(11, 0);
         race.weir(22, 3);
         race.go(1);
@@ -144,7 +128,7 @@ public final class TickTest {
     }
 
     private static void weirLetsThrough() {
-        CoracleRace race = withBoat(2, 8, 1, 3);
+        CoracleRace race = Races.withBoat(2, 8, 1, 3);
         race.weir(5, 2);
         race.weir(12, 2);
         race.go(1);
@@ -152,7 +136,7 @@ public final class TickTest {
     }
 
     private static void firstWeirThatStops() {
-        CoracleRace race = withBoat(2, 8, 1, 3);
+        CoracleRace race = Races.withBoat(2, 8, 1, 3);
         race.weir(9, 1);
         race.weir(7, 0);
         race.weir(8, 0);
@@ -162,7 +146,7 @@ public final class TickTest {
     }
 
     private static void weirTurnsStraight() {
-        CoracleRace race = withBoat(2, 8, 1, 1);
+        CoracleRace race = Races.withBoat(2, 8, 1, 1);
         race.weir(6, 0);
         race.go(1);
         CHECK.dueBoat("straight at the weir", race, 0, 6, 2, 0, 6, 0, 0, -1, 0, 1);
@@ -171,18 +155,18 @@ public final class TickTest {
     }
 
     private static void weirLooksAtTheLaneAfterDrift() {
-        CoracleRace through = withBoat(2, 8, 1, 1);
+        CoracleRace through = Races.withBoat(2, 8, 1, 1);
         through.weir(8, 3);
         through.go(2);
         CHECK.dueBoat("drifts into the gap's lane", through, 0, 10, 3, 2, 1, 0, 0, -1, 0, 0);
-        CoracleRace stopped = withBoat(2, 8, 1, 1);
+        CoracleRace stopped = Races.withBoat(2, 8, 1, 1);
         stopped.weir(8, 2);
         stopped.go(2);
         CHECK.dueBoat("drifts off the gap's lane", stopped, 0, 8, 3, 0, 6, 0, 0, -1, 0, 1);
     }
 
     private static void soakingByTicks() {
-        CoracleRace race = stillWater(2, 1, 1, 0);
+        CoracleRace race = Races.stillWithBoat(2, 1, 1, 0);
         race.go(1);
         CHECK.due("in the tick 0", race.boat(0, 3), 1);
         race.go(3);
@@ -200,7 +184,7 @@ public final class TickTest {
 
     /** Soaked by 6 at the end of the tick 20: the force is less by 1 from the tick 21 on. */
     private static void soakingSlows() {
-        CoracleRace race = stillWater(2, 2, 1, 3);
+        CoracleRace race = Races.stillWithBoat(2, 2, 1, 3);
         race.go(21);
         CHECK.due("the tick 20", race.boat(0, 0), 42);
         race.go(1);
@@ -218,12 +202,12 @@ public final class TickTest {
         race.go(1);
         CHECK.due("tarred", race.boat(0, 0), 70);
 
-        CoracleRace half = stillWater(2, 5, 1, 0);
+        CoracleRace half = Races.stillWithBoat(2, 5, 1, 0);
         half.go(24);
         half.paddle(0, 1, 1);
         half.go(1);
         CHECK.due("a half of 5, less 1, heading by 1", half.boat(0, 0), 0);
-        CoracleRace strong = stillWater(2, 8, 1, 0);
+        CoracleRace strong = Races.stillWithBoat(2, 8, 1, 0);
         strong.go(24);
         strong.paddle(0, 1, 1);
         strong.go(1);
@@ -231,7 +215,7 @@ public final class TickTest {
     }
 
     private static void soakingIsHeldByWeirs() {
-        CoracleRace race = stillWater(2, 8, 1, 0);
+        CoracleRace race = Races.stillWithBoat(2, 8, 1, 0);
         race.weir(1, 0);
         race.weir(3, 0);
         race.go(105);
@@ -244,7 +228,7 @@ public final class TickTest {
     }
 
     private static void spinIsCarriedByWater() {
-        CoracleRace race = withBoat(4, 8, 1, 1);
+        CoracleRace race = Races.withBoat(4, 8, 1, 1);
         race.go(4);
         int place = race.boat(0, 0);
         race.setWater(4, 6);
@@ -252,7 +236,7 @@ public final class TickTest {
         race.go(1);
         CHECK.due("water carries a boat that spins", race.boat(0, 0), place + 6);
         CHECK.due("spins", race.boat(0, 7), 1);
-        CoracleRace stopped = withBoat(4, 8, 1, 1);
+        CoracleRace stopped = Races.withBoat(4, 8, 1, 1);
         stopped.go(4);
         stopped.weir(stopped.boat(0, 0) + 1, 0);
         stopped.go(1);
@@ -261,14 +245,14 @@ public final class TickTest {
 
     /** Still water, strength 8: 8 a tick up to the tick 20 (168), then 7: 196 after the tick 24, 200 in the tick 25. */
     private static void comesIn() {
-        CoracleRace race = stillWater(2, 8, 1, 3);
+        CoracleRace race = Races.stillWithBoat(2, 8, 1, 3);
         CHECK.due("not yet", race.go(25), 0);
         CHECK.dueBoat("at 196", race, 0, 196, 2, 0, 7, 0, 0, -1, 0, 0);
         CHECK.due("now", race.go(1), 1);
         CHECK.dueBoat("in", race, 0, 200, 2, 0, 7, 0, 1, 26, 0, 0);
         CHECK.dueCounts("in", race, 26, 1, 0, 1, 0, -1, 0);
 
-        CoracleRace early = withBoat(2, 8, 1, 3);
+        CoracleRace early = Races.withBoat(2, 8, 1, 3);
         early.setWater(2, 6);
         early.tar(0);
         early.go(14);
@@ -276,25 +260,25 @@ public final class TickTest {
         CHECK.due("comes in", early.go(1), 1);
         CHECK.dueBoat("time with fouls", early, 0, 200, 2, 0, 4, 4, 1, 14 + 1 + 4, 0, 0);
 
-        CoracleRace soaking = stillWater(2, 8, 1, 3);
+        CoracleRace soaking = Races.stillWithBoat(2, 8, 1, 3);
         soaking.weir(192, 2);
         soaking.setWater(2, 2);
         soaking.go(20);
         CHECK.due("199 would be 200", soaking.boat(0, 5), 1);
         CHECK.dueBoat("exactly 200", soaking, 0, 200, 2, 0, 5, 0, 1, 20, 0, 0);
 
-        CoracleRace fourth = withBoat(2, 8, 1, 3);
+        CoracleRace fourth = Races.withBoat(2, 8, 1, 3);
         fourth.setWater(2, 5);
         fourth.go(16);
         CHECK.dueBoat("in in the tick 15", fourth, 0, 200, 2, 0, 4, 0, 1, 16, 0, 0);
-        CoracleRace late = withBoat(2, 8, 1, 3);
+        CoracleRace late = Races.withBoat(2, 8, 1, 3);
         late.setWater(2, 4);
         late.go(17);
         CHECK.dueBoat("in in the tick 16, soaked in it too", late, 0, 200, 2, 0, 5, 0, 1, 17, 0, 0);
     }
 
     private static void stopsJustAhead() {
-        CoracleRace race = stillWater(2, 8, 1, 3);
+        CoracleRace race = Races.stillWithBoat(2, 8, 1, 3);
         race.weir(199, 1);
         CHECK.due("26 ticks", race.go(26), 0);
         CHECK.dueBoat("stopped at 199", race, 0, 199, 2, 0, 12, 0, 0, -1, 0, 1);
@@ -303,7 +287,7 @@ public final class TickTest {
     }
 
     private static void inIsIn() {
-        CoracleRace race = stillWater(2, 8, 1, 3);
+        CoracleRace race = Races.stillWithBoat(2, 8, 1, 3);
         race.go(26);
         race.paddle(0, 1, 1);
         race.setWater(2, 6);
@@ -325,15 +309,5 @@ public final class TickTest {
         CHECK.due("the fourth comes in", race.go(100), 1);
         CHECK.due("in", race.count(3), 4);
         CHECK.due("tick", race.count(0), 331);
-    }
-
-    private static void goRefuses() {
-        CoracleRace race = withBoat(2, 8, 1, 3);
-        CHECK.illegalArgument(race, "go(0)", () -> race.go(0));
-        CHECK.illegalArgument(race, "go(201)", () -> race.go(201));
-        CHECK.illegalArgument(race, "go(-1)", () -> race.go(-1));
-        CHECK.illegalArgument(race, "go(MAX)", () -> race.go(Integer.MAX_VALUE));
-        CHECK.illegalArgument(race, "go(MIN)", () -> race.go(Integer.MIN_VALUE));
-        CHECK.due("tick", race.count(0), 0);
     }
 }

@@ -4,16 +4,12 @@ public final class WhatIsThereTest {
 
     public static void main(String[] args) {
         boatAnswers();
-        boatRefuses();
         countAnswers();
         countLeader();
         countWinner();
-        countRefuses();
         nextAnswers();
-        nextRefuses();
         rankOnTheWay();
         rankWhenIn();
-        rankRefuses();
         CHECK.end();
     }
 
@@ -30,18 +26,6 @@ public final class WhatIsThereTest {
         CHECK.dueBoat("at the bank", race, 1, 8, 4, 0, 6, 6, 0, -1, 0, 1);
         race.go(2);
         CHECK.dueBoat("left, spun", race, 0, 13 + 1 + 1, 4, 0, 2, 0, 0, -1, 1, 0);
-    }
-
-    private static void boatRefuses() {
-        CoracleRace race = new CoracleRace();
-        CHECK.outOfBounds(race, "boat(0, 0) without boats", () -> race.boat(0, 0));
-        race.launch(2, 8);
-        CHECK.outOfBounds(race, "boat(1, 0)", () -> race.boat(1, 0));
-        CHECK.outOfBounds(race, "boat(-1, 0)", () -> race.boat(-1, 0));
-        CHECK.outOfBounds(race, "boat(6, 0)", () -> race.boat(6, 0));
-        CHECK.outOfBounds(race, "boat(0, -1)", () -> race.boat(0, -1));
-        CHECK.outOfBounds(race, "boat(0, 9)", () -> race.boat(0, 9));
-        CHECK.outOfBounds(race, "boat(MAX, MIN)", () -> race.boat(Integer.MAX_VALUE, Integer.MIN_VALUE));
     }
 
     private static void countAnswers() {
@@ -104,14 +88,6 @@ public final class WhatIsThereTest {
         CHECK.due("of several the smallest number", later.count(6), 1);
     }
 
-    private static void countRefuses() {
-        CoracleRace race = new CoracleRace();
-        CHECK.outOfBounds(race, "count(-1)", () -> race.count(-1));
-        CHECK.outOfBounds(race, "count(7)", () -> race.count(7));
-        CHECK.outOfBounds(race, "count(MIN)", () -> race.count(Integer.MIN_VALUE));
-        CHECK.outOfBounds(race, "count(MAX)", () -> race.count(Integer.MAX_VALUE));
-    }
-
     private static void nextAnswers() {
         CoracleRace race = new CoracleRace();
         CHECK.due("next(200) without weirs", race.next(200), -1);
@@ -129,30 +105,15 @@ public final class WhatIsThereTest {
         CHECK.due("next(200)", race.next(200), -1);
     }
 
-    private static void nextRefuses() {
-        CoracleRace race = new CoracleRace();
-        race.weir(100, 0);
-        CHECK.illegalArgument(race, "next(-1)", () -> race.next(-1));
-        CHECK.illegalArgument(race, "next(201)", () -> race.next(201));
-        CHECK.illegalArgument(race, "next(MIN)", () -> race.next(Integer.MIN_VALUE));
-        CHECK.illegalArgument(race, "next(MAX)", () -> race.next(Integer.MAX_VALUE));
-    }
-
-    private static void dueRanks(String what, CoracleRace race, int... ranks) {
-        for (int i = 0; i < ranks.length; i++) {
-            CHECK.due(what + ": rank(" + i + ")", race.rank(i), ranks[i]);
-        }
-    }
-
     private static void rankOnTheWay() {
         CoracleRace race = new CoracleRace();
         race.launch(0, 1);
         race.launch(2, 5);
         race.launch(2, 5);
         race.launch(0, 2);
-        dueRanks("all at 0", race, 1, 1, 1, 1);
+        CHECK.dueRanks("all at 0", race, 1, 1, 1, 1);
         race.go(1);
-        dueRanks("apart", race, 4, 1, 1, 3);
+        CHECK.dueRanks("apart", race, 4, 1, 1, 3);
     }
 
     private static void rankWhenIn() {
@@ -168,18 +129,9 @@ public final class WhatIsThereTest {
         race.tar(4);
         race.go(19);
         CHECK.due("three are in", race.count(3), 3);
-        dueRanks("in ahead of the others", race, 2, 1, 5, 4, 2);
+        CHECK.dueRanks("in ahead of the others", race, 2, 1, 5, 4, 2);
         race.go(1);
         CHECK.due("four are in", race.count(3), 4);
-        dueRanks("by time, not by the tick", race, 3, 1, 5, 2, 3);
-    }
-
-    private static void rankRefuses() {
-        CoracleRace race = new CoracleRace();
-        CHECK.outOfBounds(race, "rank(0) without boats", () -> race.rank(0));
-        race.launch(0, 1);
-        CHECK.outOfBounds(race, "rank(1)", () -> race.rank(1));
-        CHECK.outOfBounds(race, "rank(-1)", () -> race.rank(-1));
-        CHECK.outOfBounds(race, "rank(MAX)", () -> race.rank(Integer.MAX_VALUE));
+        CHECK.dueRanks("by time, not by the tick", race, 3, 1, 5, 2, 3);
     }
 }

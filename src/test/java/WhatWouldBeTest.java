@@ -4,36 +4,23 @@ public final class WhatWouldBeTest {
 
     public static void main(String[] args) {
         arrivesAnswers();
-        arrivesAtTheLatest();
-        arrivesRefuses();
         foreseeAnswers();
         foreseeFouls();
         foreseeFromALaterTick();
         foreseeThoseThatAreIn();
         fullRiver();
-        foreseeRefuses();
         adviseByTheTick();
         adviseTheFarthest();
         adviseOfSeveral();
-        adviseRefuses();
         triesLeaveNothing();
         meanAnswers();
         digestAnswers();
         CHECK.end();
     }
 
-    private static CoracleRace stillWater(int lane, int strength) {
-        CoracleRace race = new CoracleRace();
-        race.launch(lane, strength);
-        for (int i = 0; i < 5; i++) {
-            race.setWater(i, 0);
-        }
-        return race;
-    }
-
     /** As TickTest.comesIn has it: in in the tick 25, which is behind 26 ticks. */
     private static void arrivesAnswers() {
-        CoracleRace race = stillWater(2, 8);
+        CoracleRace race = Races.stillWithBoat(2, 8, 1, 3);
         long before = race.digest();
         CHECK.due("arrives(0)", race.arrives(0), 26);
         CHECK.due("nothing is changed", race.digest(), before);
@@ -47,46 +34,6 @@ public final class WhatWouldBeTest {
         CHECK.due("arrives(1) at rest", race.arrives(1), -1);
         race.setWater(2, 1);
         CHECK.due("arrives(1) by water", race.arrives(1), 200);
-    }
-
-    /** A boat of strength 6 that is soaked by 30, so that a stroke of both brings it by 1, at the tick 120. */
-    private static CoracleRace soakedAt(int waterAtFirst, int ticksOfIt) {
-        CoracleRace race = stillWater(2, 6);
-        race.paddle(0, 1, 0);
-        race.setWater(2, waterAtFirst);
-        race.go(ticksOfIt);
-        race.setWater(2, 0);
-        race.go(120 - ticksOfIt);
-        race.paddle(0, 5, 30003);
-        return race;
-    }
-
-    private static void arrivesAtTheLatest() {
-        CoracleRace race = soakedAt(4, 10);
-        CHECK.due("at", race.boat(0, 0), 40);
-        CHECK.due("160 strokes, two in five ticks", race.arrives(0), 400);
-
-        CoracleRace later = soakedAt(3, 13);
-        CHECK.due("at", later.boat(0, 0), 39);
-        CHECK.due("161 strokes take 401 ticks", later.arrives(0), -1);
-        later.go(1);
-        CHECK.due("400 are left", later.arrives(0), 400);
-        later.go(200);
-        CHECK.due("200 are left", later.arrives(0), 200);
-        later.go(199);
-        CHECK.due("1 is left", later.arrives(0), 1);
-        later.go(1);
-        CHECK.due("none is left", later.arrives(0), 0);
-        CHECK.due("its time", later.boat(0, 6), 521);
-    }
-
-    private static void arrivesRefuses() {
-        CoracleRace race = new CoracleRace();
-        CHECK.outOfBounds(race, "arrives(0) without boats", () -> race.arrives(0));
-        race.launch(0, 1);
-        CHECK.outOfBounds(race, "arrives(1)", () -> race.arrives(1));
-        CHECK.outOfBounds(race, "arrives(-1)", () -> race.arrives(-1));
-        CHECK.outOfBounds(race, "arrives(MIN)", () -> race.arrives(Integer.MIN_VALUE));
     }
 
     private static CoracleRace threeBoats() {
@@ -132,7 +79,7 @@ public final class WhatWouldBeTest {
     }
 
     private static void foreseeFouls() {
-        CoracleRace race = stillWater(4, 1);
+        CoracleRace race = Races.stillWithBoat(4, 1, 1, 3);
         race.paddle(0, 1, 1);
         race.tar(0);
         CHECK.due("fouls behind 1", race.foresee(1, 4), 4);
@@ -143,7 +90,7 @@ public final class WhatWouldBeTest {
 
     /** In the tick 33 the second stroke of two counts; were it the tick 0, the first one would. */
     private static void foreseeFromALaterTick() {
-        CoracleRace race = stillWater(2, 8);
+        CoracleRace race = Races.stillWithBoat(2, 8, 1, 3);
         race.paddle(0, 1, 0);
         race.setWater(2, 6);
         race.go(33);
@@ -190,21 +137,6 @@ public final class WhatWouldBeTest {
         CHECK.due("in behind 200", race.foresee(200, 3), 6);
         race.go(200);
         CHECK.due("in", race.count(3), 6);
-    }
-
-    private static void foreseeRefuses() {
-        CoracleRace race = threeBoats();
-        CHECK.illegalArgument(race, "foresee(0, 3)", () -> race.foresee(0, 3));
-        CHECK.illegalArgument(race, "foresee(201, 3)", () -> race.foresee(201, 3));
-        CHECK.illegalArgument(race, "foresee(-1, 3)", () -> race.foresee(-1, 3));
-        CHECK.outOfBounds(race, "foresee(1, 2)", () -> race.foresee(1, 2));
-        CHECK.outOfBounds(race, "foresee(1, 7)", () -> race.foresee(1, 7));
-        CHECK.outOfBounds(race, "foresee(200, 0)", () -> race.foresee(200, 0));
-        CHECK.outOfBounds(race, "foresee(200, -1)", () -> race.foresee(200, -1));
-        CHECK.illegalArgument(race, "foresee(0, 7)", () -> race.foresee(0, 7));
-        CHECK.illegalArgument(race, "foresee(201, 2)", () -> race.foresee(201, 2));
-        CHECK.illegalArgument(race, "foresee(MAX, MIN)",
-            () -> race.foresee(Integer.MAX_VALUE, Integer.MIN_VALUE));
     }
 
     /** In an even tick the first stroke of two counts, in an odd one the second. */
@@ -277,20 +209,6 @@ public final class WhatWouldBeTest {
         race.go(30);
         CHECK.due("in", race.boat(0, 5), 1);
         CHECK.due("advise for a boat that is in", race.advise(0, 1), 0);
-    }
-
-    private static void adviseRefuses() {
-        CoracleRace race = new CoracleRace();
-        CHECK.outOfBounds(race, "advise(0, 1) without boats", () -> race.advise(0, 1));
-        race.launch(0, 1);
-        CHECK.outOfBounds(race, "advise(1, 1)", () -> race.advise(1, 1));
-        CHECK.outOfBounds(race, "advise(-1, 1)", () -> race.advise(-1, 1));
-        CHECK.illegalArgument(race, "advise(0, 0)", () -> race.advise(0, 0));
-        CHECK.illegalArgument(race, "advise(0, 61)", () -> race.advise(0, 61));
-        CHECK.illegalArgument(race, "advise(0, -1)", () -> race.advise(0, -1));
-        CHECK.outOfBounds(race, "advise(1, 61)", () -> race.advise(1, 61));
-        CHECK.outOfBounds(race, "advise(MAX, MIN)",
-            () -> race.advise(Integer.MAX_VALUE, Integer.MIN_VALUE));
     }
 
     /** What would be is asked between all ticks of one race and not of another; both go the same way. */
