@@ -131,7 +131,7 @@ public final class RiverAndBoatsEdgesTest {
     }
 
     private static void weirGap() {
-        CHECK.sentence("Throws IllegalArgumentException if gap is not 0 to 4");
+        CHECK.sentence("or gap is not 0 to 4");
         CHECK.range("weir(1, gap)", () -> Races.withBoats(2), ILLEGAL_ARGUMENT, 0, 4, (race, gap) -> race.weir(1, gap));
         CHECK.range("weir(199, gap)", () -> Races.withWeirs(5), ILLEGAL_ARGUMENT, 0, 4,
             (race, gap) -> race.weir(199, gap));
@@ -155,7 +155,7 @@ public final class RiverAndBoatsEdgesTest {
     }
 
     private static void weirAtThisPlace() {
-        CHECK.sentence("Throws IllegalStateException if there is one at this place");
+        CHECK.sentence("Throws IllegalStateException if there are 6, or one at this place");
         for (int i = 1; i <= 5; i++) {
             int place = 10 * i;
             for (int g = 0; g < Races.LANES; g++) {
@@ -202,7 +202,7 @@ public final class RiverAndBoatsEdgesTest {
     }
 
     private static void launchStrength() {
-        CHECK.sentence("Throws IllegalArgumentException if strength is not 1 to 8");
+        CHECK.sentence("or strength is not 1 to 8");
         CHECK.range("launch(0, strength)", () -> Races.withWeirs(1), ILLEGAL_ARGUMENT, 1, 8,
             (race, strength) -> race.launch(0, strength));
         CHECK.range("the first launch(4, strength)", Races::empty, ILLEGAL_ARGUMENT, 1, 8,

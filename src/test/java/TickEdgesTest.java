@@ -21,6 +21,7 @@ public final class TickEdgesTest {
         weirOnTheWay();
         weirWhereItWas();
         weirInTheLaneOfItsGap();
+        weirInTheLaneThatItDriftsTo();
         weirFirstSuchOne();
         weirAtTheEnds();
         weirHeadsStraight();
@@ -28,6 +29,7 @@ public final class TickEdgesTest {
         weirSoaksHeldInAFourthTick();
         soakedInFourthTicks();
         soakedHeld();
+        soakedInTheTickInWhichItComesIn();
         inAtTwoHundred();
         inIsNotOnItsWay();
         timeWithFouls();
@@ -236,7 +238,7 @@ public final class TickEdgesTest {
     // ---- 3. Going
 
     private static void goingIsCutByHeading() {
-        CHECK.sentence("It goes by force * (4 - its heading without the sign) / 4 and the water of its lane, added.");
+        CHECK.sentence("it goes by force * (4 - its heading without the sign) / 4 and the water of its lane, added.");
         int[][] goes = {
             {1, 2, 3, 4, 5, 6, 7, 8},
             {0, 1, 2, 3, 3, 4, 5, 6},
@@ -337,6 +339,21 @@ public final class TickEdgesTest {
         for (int gap = 0; gap < Races.LANES; gap++) {
             CHECK.due("gap " + gap + ", a weir on the way", pastWeir(54, gap).boat(0, 0), gap == 2 ? 58 : 54);
             CHECK.due("gap " + gap + ", a weir at its end", pastWeir(58, gap).boat(0, 8), gap == 2 ? 0 : 1);
+        }
+    }
+
+    /** Heading by 2 from the lane 3, it is in the lane 4 when it goes, by the water there. */
+    private static void weirInTheLaneThatItDriftsTo() {
+        CHECK.sentence("and is not in the lane of its gap");
+        for (int gap = 3; gap <= 4; gap++) {
+            CoracleRace race = Races.heading(2, 1, 2);
+            CHECK.due("ahead of the drift", race.boat(0, 1), 3);
+            race.setWater(4, 5);
+            race.weir(5, gap);
+            race.weir(4, 4);
+            race.go(1);
+            CHECK.due("gap " + gap + ": place", race.boat(0, 0), 5);
+            CHECK.due("gap " + gap + ": stopped", race.boat(0, 8), gap == 4 ? 0 : 1);
         }
     }
 
@@ -458,6 +475,23 @@ public final class TickEdgesTest {
         CHECK.due("no thirty-first", race.boat(0, 3), 30);
         race.go(200);
         CHECK.due("held", race.boat(0, 3), 30);
+    }
+
+    private static void soakedInTheTickInWhichItComesIn() {
+        CHECK.sentence("In ticks that can be divided by 4 it is soaked by 1 more");
+        for (int ticksMore = 0; ticksMore <= 7; ticksMore++) {
+            CoracleRace race = Races.at(199, 8);
+            for (int i = 0; i < ticksMore; i++) {
+                race.go(1);
+            }
+            int before = race.boat(0, 3);
+            int tick = race.count(0);
+            race.setWater(2, 1);
+            CHECK.due("comes in in the tick " + tick, race.go(1), 1);
+            CHECK.due("soaked in the tick " + tick, race.boat(0, 3) - before, tick % 4 == 0 ? 1 : 0);
+            race.go(8);
+            CHECK.due("and not when it is in", race.boat(0, 3) - before, tick % 4 == 0 ? 1 : 0);
+        }
     }
 
     private static void inAtTwoHundred() {

@@ -47,7 +47,7 @@ public final class WhatIsThereEdgesTest {
     }
 
     private static void boatWhat() {
-        CHECK.sentence("Throws IndexOutOfBoundsException if what is not 0 to 8");
+        CHECK.sentence("or what is not 0 to 8");
         CHECK.range("boat(0, what), in", Races::withOneIn, OUT_OF_BOUNDS, 0, 8, (race, what) -> race.boat(0, what));
         CHECK.range("boat(1, what), on its way", Races::withOneIn, OUT_OF_BOUNDS, 0, 8,
             (race, what) -> race.boat(1, what));

@@ -14,6 +14,7 @@ public final class WhatWouldBeEdgesTest {
         arrivesBoat();
         arrivesWhenIn();
         arrivesInTheNextTick();
+        arrivesFromALaterTick();
         arrivesAtMost400();
         arrivesNotByThen();
         arrivesChangesNothing();
@@ -21,6 +22,7 @@ public final class WhatWouldBeEdgesTest {
         foreseeWhat();
         foreseeBothWrong();
         foreseeBehindSoManyTicks();
+        foreseeFromALaterTick();
         foreseeNone();
         foreseeOfSeveral();
         foreseeChangesNothing();
@@ -71,6 +73,28 @@ public final class WhatWouldBeEdgesTest {
         for (int left = 26; left >= 0; left--) {
             CHECK.due("with " + left + " left", race.arrives(0), left);
             race.go(1);
+        }
+    }
+
+    /** At 192, a stroke of both in every other tick: in an even one by the first pattern, in an odd one by the second. */
+    private static CoracleRace oneStrokeShort(int ticksMore, int pattern) {
+        CoracleRace race = Races.at(192, 8);
+        CHECK.due("at", race.boat(0, 0), 192);
+        CHECK.due("an even tick", race.count(0) % 2, 0);
+        for (int i = 0; i < ticksMore; i++) {
+            race.go(1);
+        }
+        race.tar(0);
+        race.paddle(0, 2, pattern);
+        return race;
+    }
+
+    private static void arrivesFromALaterTick() {
+        CHECK.sentence("Returns behind how many ticks it is in, if nothing is done");
+        for (int ticksMore = 0; ticksMore <= 5; ticksMore++) {
+            boolean even = ticksMore % 2 == 0;
+            CHECK.due("both, rest, " + ticksMore + " later", oneStrokeShort(ticksMore, 30).arrives(0), even ? 1 : 2);
+            CHECK.due("rest, both, " + ticksMore + " later", oneStrokeShort(ticksMore, 3).arrives(0), even ? 2 : 1);
         }
     }
 
@@ -176,6 +200,17 @@ public final class WhatWouldBeEdgesTest {
         far.setWater(2, 1);
         CHECK.due("in behind 1 from two short", far.foresee(1, 3), 0);
         CHECK.due("in behind 2 from two short", far.foresee(2, 3), 1);
+    }
+
+    private static void foreseeFromALaterTick() {
+        CHECK.sentence("Returns this, behind so many ticks, if nothing is done");
+        for (int ticksMore = 0; ticksMore <= 5; ticksMore++) {
+            boolean even = ticksMore % 2 == 0;
+            String later = ", " + ticksMore + " later";
+            CHECK.due("both, rest" + later, oneStrokeShort(ticksMore, 30).foresee(1, 3), even ? 1 : 0);
+            CHECK.due("rest, both" + later, oneStrokeShort(ticksMore, 3).foresee(1, 3), even ? 0 : 1);
+            CHECK.due("either in two" + later, oneStrokeShort(ticksMore, 3).foresee(2, 3), 1);
+        }
     }
 
     private static void foreseeNone() {
