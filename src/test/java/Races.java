@@ -5,6 +5,12 @@ final class Races {
     static final int MOST_WEIRS = 6;
     static final int MOST_SOAKED = 30;
 
+    /** The mixed race: of each boat its lane, its strength, how many strokes it has, and these. */
+    private static final int[][] MIXED_BOATS = {
+        {2, 8, 3, 133}, {0, 5, 1, 1}, {4, 3, 6, 113320}, {1, 7, 4, 2313}, {3, 6, 5, 10233}, {2, 1, 1, 0},
+    };
+    private static final int[][] MIXED_WEIRS = {{150, 4}, {20, 1}, {21, 3}, {90, 2}, {60, 0}, {199, 2}};
+
     private Races() {
     }
 
@@ -106,6 +112,33 @@ final class Races {
         race.setWater(2, 0);
         if (race.boat(0, 3) > 0) {
             race.tar(0);
+        }
+        return race;
+    }
+
+    /** The river of the mixed race, without its boats. */
+    static CoracleRace mixedRiver() {
+        CoracleRace race = new CoracleRace();
+        for (int[] weir : MIXED_WEIRS) {
+            race.weir(weir[0], weir[1]);
+        }
+        race.setWater(0, 0);
+        race.setWater(2, 0);
+        return race;
+    }
+
+    static int launchMixed(CoracleRace race, int boat) {
+        int[] row = MIXED_BOATS[boat];
+        int number = race.launch(row[0], row[1]);
+        race.paddle(number, row[2], row[3]);
+        return number;
+    }
+
+    /** Six boats and six weirs: there are turns, spins, banks, stops, some that come in, and one that never does. */
+    static CoracleRace mixed() {
+        CoracleRace race = mixedRiver();
+        for (int boat = 0; boat < MIXED_BOATS.length; boat++) {
+            launchMixed(race, boat);
         }
         return race;
     }
